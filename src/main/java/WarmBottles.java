@@ -28,7 +28,8 @@ public final class WarmBottles {
     private static final int TENTHS = 10;
     private static final int MOST_ODDS_HOURS = 8;
     private static final int IMAGES = 2;
-    private static final int NO_FAULT_YET = -10;
+    private static final int[] ONE_BED = {0, 0, 0, 0, 0, 0};
+    private static final int FAULT_AT_0 = -10;
 
     private final Text text;
     private final Told draft;
@@ -38,7 +39,6 @@ public final class WarmBottles {
     private final boolean[] imageKept;
     private final Heard heard;
     private final Keeping keeping;
-    private final Laying laying;
     private long trace;
 
     public WarmBottles() {
@@ -50,7 +50,6 @@ public final class WarmBottles {
         imageKept = new boolean[IMAGES];
         heard = new Heard();
         keeping = new Keeping(night);
-        laying = new Laying(night);
     }
 
     // ---- the ward
@@ -213,7 +212,7 @@ public final class WarmBottles {
     // ---- till morning
 
     public int morning(int n, int b) {
-        if (n < 1 || n > LATEST_MORNING || b != -1 && !night.has(b)) {
+        if (n < 1 || n > LATEST_MORNING || (b != -1 && !night.has(b))) {
             return BAD;
         }
         return b == -1 ? night.pintsOfAll(n) : night.pintsOf(b, n);
@@ -236,8 +235,9 @@ public final class WarmBottles {
         if (night.told.bottles == 0) {
             return NONE;
         }
-        laying.findBest();
-        return b == -1 ? laying.greatest : laying.best[b];
+        // Each other one in a bed only slows the cooling there, so no way to lay them is better
+        // than all together in bed 0, and of the ways that are as good it is the first.
+        return b == -1 ? night.allLast(ONE_BED) : 0;
     }
 
     public int odds(int b, int x, int n, int what) {
@@ -298,8 +298,8 @@ public final class WarmBottles {
             return NONE;
         }
         int best = 0;
-        int least = MOST_BOTTLES + 1;
-        for (int h = 0; h <= LATEST_HEARD; h++) {
+        int least = night.mostOfOneSound(suspects, 0);
+        for (int h = 1; h <= LATEST_HEARD; h++) {
             int most = night.mostOfOneSound(suspects, h);
             if (most < least) {
                 least = most;
@@ -471,7 +471,7 @@ public final class WarmBottles {
                     break;
                 }
             }
-            return NO_FAULT_YET - start;
+            return FAULT_AT_0 - start;
         }
 
         // Whatever answers false below has just read the token at fault: start is its place.
@@ -553,12 +553,12 @@ public final class WarmBottles {
         private void readDigits() {
             value = 0;
             while (place < length && isDigit(letters[place])) {
-                // Held at 100, so that a long row of digits doesn't wrap around.
+                // Held at 100: that is beyond what any number may be, and doesn't wrap around.
                 value = Math.min(100, value * 10 + (letters[place] - '0'));
                 place++;
             }
             boolean zeroAhead = letters[start] == '0' && place > start + 1;
-            token = value > 99 || zeroAhead ? WRONG_NUMBER : NUMBER;
+            token = zeroAhead ? WRONG_NUMBER : NUMBER;
         }
 
         private static boolean isDigit(char letter) {
@@ -617,17 +617,13 @@ public final class WarmBottles {
 
         /** What a bottle loses in an hour, if all lie as beds says. */
         int loss(int b, int[] beds, int frostThen) {
-            return Math.max(1, told.cools[b] + frostThen - 2 * othersBeside(b, beds));
-        }
-
-        private int othersBeside(int b, int[] beds) {
-            int others = 0;
+            int loss = told.cools[b] + frostThen;
             for (int other = 0; other < told.bottles; other++) {
                 if (other != b && beds[other] == beds[b]) {
-                    others++;
+                    loss -= 2;
                 }
             }
-            return others;
+            return Math.max(1, loss);
         }
 
         int lasts(int b, int[] beds) {
@@ -716,9 +712,9 @@ public final class WarmBottles {
         private final int slots;
         private final int[] cells;
 
-        Copies(int wanted) {
-            slots = Math.max(0, Math.min(wanted, MOST_UNDONE));
-            cells = new int[slots * SLOT];
+        Copies(int slots) {
+            this.slots = Math.max(0, slots);
+            cells = new int[this.slots * SLOT];
         }
 
         void put(int slot, Night night) {
@@ -849,7 +845,7 @@ public final class WarmBottles {
 
         private int mostByFilling(int whom, int gone, int kettle) {
             int pints = whom == NOBODY ? 0 : 1;
-            if (gone >= MOST_KEPT || kettle < pints || !staysWarmByFilling(whom, gone)) {
+            if (kettle < pints || !staysWarmByFilling(whom, gone)) {
                 return gone;
             }
             return mostFrom(gone + 1, kettle - pints);
@@ -869,42 +865,6 @@ public final class WarmBottles {
                 warm[at + MOST_BOTTLES + b] = then;
             }
             return true;
-        }
-    }
-
-    /** Who should lie with whom: every way is tried, and the first of the best is kept. */
-    private static final class Laying {
-        private final Night night;
-        private final int[] tried = new int[MOST_BOTTLES];
-        final int[] best = new int[MOST_BOTTLES];
-        int greatest;
-
-        Laying(Night night) {
-            this.night = night;
-        }
-
-        void findBest() {
-            greatest = -1;
-            layFrom(0, 0);
-        }
-
-        private void layFrom(int b, int used) {
-            if (b >= night.told.bottles) {
-                compare();
-                return;
-            }
-            for (int bed = 0; bed <= used && bed < MOST_BOTTLES; bed++) {
-                tried[b] = bed;
-                layFrom(b + 1, Math.max(used, bed + 1));
-            }
-        }
-
-        private void compare() {
-            int all = night.allLast(tried);
-            if (all > greatest) {
-                greatest = all;
-                System.arraycopy(tried, 0, best, 0, MOST_BOTTLES);
-            }
         }
     }
 }
