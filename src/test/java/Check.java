@@ -20,6 +20,10 @@ final class Check {
         due(what, holds ? 1 : 0, 1);
     }
 
+    static int asked() {
+        return asked;
+    }
+
     static int wrong() {
         return wrong;
     }
