@@ -49,7 +49,7 @@ public final class WarmBottles {
         images = new Copies(IMAGES);
         imageKept = new boolean[IMAGES];
         heard = new Heard();
-        keeping = new Keeping(night);
+        keeping = new Keeping();
     }
 
     // ---- the ward
@@ -225,7 +225,7 @@ public final class WarmBottles {
         if (night.told.bottles == 0) {
             return NONE;
         }
-        return what == 0 ? keeping.mostHours() : keeping.first();
+        return what == 0 ? keeping.mostHours(night) : keeping.first(night);
     }
 
     public int beds(int b) {
@@ -798,61 +798,56 @@ public final class WarmBottles {
 
     /** For how many hours all can be kept warm by one pint an hour: every way is tried. */
     private static final class Keeping {
-        private final Night night;
         private final int[] loss = new int[MOST_BOTTLES];
         // How warm each bottle is behind 0, 1, .. hours of the way that is being tried.
         private final int[] warm = new int[(MOST_KEPT + 1) * MOST_BOTTLES];
 
-        Keeping(Night night) {
-            this.night = night;
+        int mostHours(Night night) {
+            lookAt(night);
+            return mostFrom(night, 0, night.kettle);
         }
 
-        int mostHours() {
-            lookAtNight();
-            return mostFrom(0, night.kettle);
-        }
-
-        int first() {
-            int most = mostHours();
+        int first(Night night) {
+            int most = mostHours(night);
             if (most == 0) {
                 return NONE;
             }
             for (int b = 0; b < night.told.bottles; b++) {
-                if (mostByFilling(b, 0, night.kettle) == most) {
+                if (mostByFilling(night, b, 0, night.kettle) == most) {
                     return b;
                 }
             }
             return NOBODY;
         }
 
-        private void lookAtNight() {
+        private void lookAt(Night night) {
             for (int b = 0; b < night.told.bottles; b++) {
                 loss[b] = night.loss(b, night.bed, night.frost);
                 warm[b] = night.warm[b];
             }
         }
 
-        private int mostFrom(int gone, int kettle) {
+        private int mostFrom(Night night, int gone, int kettle) {
             if (gone >= MOST_KEPT) {
                 return MOST_KEPT;
             }
-            int most = mostByFilling(NOBODY, gone, kettle);
+            int most = mostByFilling(night, NOBODY, gone, kettle);
             for (int b = 0; b < night.told.bottles && most < MOST_KEPT; b++) {
-                most = Math.max(most, mostByFilling(b, gone, kettle));
+                most = Math.max(most, mostByFilling(night, b, gone, kettle));
             }
             return most;
         }
 
-        private int mostByFilling(int whom, int gone, int kettle) {
+        private int mostByFilling(Night night, int whom, int gone, int kettle) {
             int pints = whom == NOBODY ? 0 : 1;
-            if (kettle < pints || !staysWarmByFilling(whom, gone)) {
+            if (kettle < pints || !staysWarmByFilling(night, whom, gone)) {
                 return gone;
             }
-            return mostFrom(gone + 1, kettle - pints);
+            return mostFrom(night, gone + 1, kettle - pints);
         }
 
         /** Lets the hour behind gone others pass: whether all are above 0 then. */
-        private boolean staysWarmByFilling(int whom, int gone) {
+        private boolean staysWarmByFilling(Night night, int whom, int gone) {
             if (gone < 0 || gone >= MOST_KEPT) {
                 return false;
             }

