@@ -20,7 +20,8 @@ final class KindsSentences {
         backNothingElse();
         count();
         trace();
-        constants();
+        refusedInOrder();
+        refusedWhereAllIsFull();
         wholeRun();
     }
 
@@ -324,7 +325,7 @@ final class KindsSentences {
         });
     }
 
-    private static void constants() {
+    private static void refusedInOrder() {
         Sentence.holds(22, "Refused, and nothing changes, the first of these: BAD (a number is not as told, or there"
                 + " is no such thing), STATE (as told), FULL.", () -> {
             due("BAD", WarmBottles.BAD, -1);
@@ -343,6 +344,75 @@ final class KindsSentences {
             refused("type: FULL", poor, x -> x.type(0), FULL);
             refused("hears: BAD, not FULL", poor, x -> x.hears(0, 3), BAD);
             refused("hears: FULL", poor, x -> x.hears(0, 2), FULL);
+        });
+    }
+
+    private static void refusedWhereAllIsFull() {
+        Sentence.holds(13, "Refused, and nothing changes", () -> {
+            Supplier<WarmBottles> full = Wards::crowded;
+            due("ten may be undone", full.get().now(5), 10);
+            due("HEARD", full.get().count(3), 6);
+            due("letters", full.get().count(4), 120);
+            refused("type(256)", full, x -> x.type(256), BAD);
+            refused("type(32)", full, x -> x.type(32), FULL);
+            refused("ward()", full, x -> x.ward(), -130);
+            refused("bottle(6, 0)", full, x -> x.bottle(6, 0), BAD);
+            refused("now(6)", full, x -> x.now(6), BAD);
+            refused("fills(6, 1)", full, x -> x.fills(6, 1), BAD);
+            refused("fills(0, 10)", full, x -> x.fills(0, 10), BAD);
+            refused("lays(0, 6)", full, x -> x.lays(0, 6), BAD);
+            refused("lays(6, 0)", full, x -> x.lays(6, 0), BAD);
+            refused("spills(6)", full, x -> x.spills(6), BAD);
+            refused("frosts(10)", full, x -> x.frosts(10), BAD);
+            refused("frosts(1)", full, x -> x.frosts(1), STATE);
+            refused("morning(41, 0)", full, x -> x.morning(41, 0), BAD);
+            refused("kept(2)", full, x -> x.kept(2), BAD);
+            refused("beds(6)", full, x -> x.beds(6), BAD);
+            refused("odds(0, 11, 1, 0)", full, x -> x.odds(0, 11, 1, 0), BAD);
+            refused("hears(10, 0)", full, x -> x.hears(10, 0), BAD);
+            refused("hears(0, 0)", full, x -> x.hears(0, 0), FULL);
+            refused("rate(0, 6)", full, x -> x.rate(0, 6), NO);
+            refused("rate(6, 0)", full, x -> x.rate(6, 0), NO);
+            refused("keep(2)", full, x -> x.keep(2), BAD);
+            refused("back(2)", full, x -> x.back(2), BAD);
+            refused("count(5)", full, x -> x.count(5), BAD);
+            for (int b = 0; b < 6; b++) {
+                int each = b;
+                int bed = full.get().bottle(b, 3);
+                refused("fills(" + b + ", 2)", full, x -> x.fills(each, 2), STATE);
+                refused("lays(" + b + ", " + bed + ")", full, x -> x.lays(each, bed), STATE);
+                if (full.get().bottle(b, 0) == 0) {
+                    refused("spills(" + b + ")", full, x -> x.spills(each), STATE);
+                }
+            }
+            due("boils()", full.get().boils(), 1);
+        });
+        Sentence.holds(13, "Refused, and nothing changes, the first of these", () -> {
+            Supplier<WarmBottles> boiled = () -> {
+                WarmBottles x = Wards.crowded();
+                x.boils();
+                return x;
+            };
+            refused("boils()", boiled, x -> x.boils(), STATE);
+            Supplier<WarmBottles> late = () -> {
+                WarmBottles x = Wards.afterHours(Wards.SIX, 998);
+                x.keep(0);
+                for (int b = 0; b < 5; b++) {
+                    x.fills(b, 1);
+                    x.lays(b, b + 1);
+                }
+                x.hour();
+                return x;
+            };
+            refused("hour() at 999", late, x -> x.hour(), STATE);
+            Supplier<WarmBottles> undone = () -> {
+                WarmBottles x = Wards.crowded();
+                for (int i = 0; i < 10; i++) {
+                    x.undo();
+                }
+                return x;
+            };
+            refused("undo()", undone, x -> x.undo(), STATE);
         });
     }
 

@@ -41,6 +41,29 @@ final class Wards {
         return x;
     }
 
+    /** All is full: six bottles, each in another's bed, ten to undo, both images, six heard, 120 letters. */
+    static WarmBottles crowded() {
+        WarmBottles x = told("k3;p5;b30 3 10;b20 2 30;b9 1 5;b15 4 15;b1 1 1;b50 5 49;");
+        x.hour();
+        x.hour();
+        x.keep(0);
+        int[] beds = {1, 2, 0, 5, 0, 3};
+        for (int b = 0; b < beds.length; b++) {
+            x.lays(b, beds[b]);
+        }
+        x.frosts(1);
+        x.fills(5, 2);
+        x.keep(1);
+        x.hour();
+        x.spills(2);
+        for (int heard = 0; heard < 6; heard++) {
+            x.hears(heard, heard < 3 ? 2 : 1);
+        }
+        x.rate(5, 5);
+        type(x, " ".repeat(113) + "p4;b7 2");
+        return x;
+    }
+
     static WarmBottles busyWithText(String text) {
         WarmBottles x = busy();
         x.clear();
