@@ -2,8 +2,12 @@ import java.lang.reflect.Constructor;
 import java.lang.reflect.Field;
 import java.lang.reflect.Method;
 import java.lang.reflect.Modifier;
+import java.nio.file.Files;
+import java.nio.file.Path;
 import java.util.Set;
 import java.util.TreeSet;
+import java.util.regex.Matcher;
+import java.util.regex.Pattern;
 
 /** The public face is the document's, and nothing else of the class can be seen. */
 public final class FaceTest {
@@ -20,6 +24,7 @@ public final class FaceTest {
         constants();
         methods();
         members();
+        asInDocument();
         Check.end("FaceTest");
     }
 
@@ -80,5 +85,48 @@ public final class FaceTest {
             Check.isTrue(inside + " can't be seen",
                     !Modifier.isPublic(modifiers) && !Modifier.isProtected(modifiers));
         }
+    }
+
+    /** The declarations stand in the source as in the document, in its order, under its headings. */
+    private static void asInDocument() throws Exception {
+        Path page = Path.of(System.getProperty("warmBottles.shared", "../shared"), "DOC.md");
+        if (!Files.isReadable(page)) {
+            System.out.println("no document at " + page + ": the order of the calls is not looked at");
+            return;
+        }
+        String document = Files.readString(page);
+        String source = Files.readString(
+                Path.of(System.getProperty("warmBottles.source", "src/main/java/WarmBottles.java")));
+        Matcher declared = Pattern.compile("(?m)^ {4}public ([^;]*);$").matcher(document);
+        int found = 0;
+        int last = source.indexOf("public final class WarmBottles {");
+        while (declared.find()) {
+            found++;
+            String line = "\n    public " + declared.group(1) + (declared.group(1).endsWith(")") ? " {" : ";");
+            int at = source.indexOf(line);
+            Check.isTrue("behind the one ahead of it: " + line.strip(), last >= 0 && at > last);
+            last = at;
+        }
+        Check.due("declarations in the document", found, 2 + 1 + METHODS.length);
+        underHeadings(document, source);
+    }
+
+    private static void underHeadings(String document, String source) {
+        Matcher heading = Pattern.compile(
+                "Ahead of the calls (`[^-]*`) the interface says: (---- [^.]*)\\.").matcher(document);
+        int headed = 0;
+        while (heading.find()) {
+            int from = source.indexOf("\n    // " + heading.group(2) + "\n");
+            Check.isTrue("the source says " + heading.group(2), from >= 0);
+            int to = source.indexOf("\n    // ---- ", from + 1);
+            String part = source.substring(Math.max(0, from), to < 0 ? source.length() : to);
+            String[] names = heading.group(1).replace("`", "").split(", ");
+            headed += names.length;
+            for (String name : names) {
+                Check.isTrue(name + " under " + heading.group(2), part.contains(" " + name + "("));
+            }
+            Check.due("calls under " + heading.group(2), part.split("\n    public ").length - 1, names.length);
+        }
+        Check.due("calls under headings", headed, METHODS.length);
     }
 }
